@@ -1,0 +1,68 @@
+/** What the tests share: they tell each answer that is not the one that is due, and count them. */
+final class Check {
+    private static int asked = 0;
+    private static int wrong = 0;
+
+    private Check() {
+    }
+
+    interface Call {
+        void run();
+    }
+
+    static void same(String call, long got, long due) {
+        asked++;
+        if (got != due) {
+            tellWrong(call + " answered " + got + ", due is " + due);
+        }
+    }
+
+    static void sameDouble(String call, double got, double due) {
+        asked++;
+        if (got != due) {
+            tellWrong(call + " answered " + got + ", due is " + due);
+        }
+    }
+
+    /** The call has to throw just this, and to leave the courtyard as it is. */
+    static void refused(String call, Class<? extends Exception> due, DoorbellChoir x, Call tried) {
+        long before = x.digest();
+        asked++;
+        Class<?> got = null;
+        try {
+            tried.run();
+        } catch (RuntimeException e) {
+            got = e.getClass();
+        }
+        if (got != due) {
+            tellWrong(call + " threw " + got + ", due is " + due);
+        }
+        same(call + ": the digest behind it", x.digest(), before);
+    }
+
+    static void noSuch(String call, DoorbellChoir x, Call tried) {
+        refused(call, IndexOutOfBoundsException.class, x, tried);
+    }
+
+    static void badArgument(String call, DoorbellChoir x, Call tried) {
+        refused(call, IllegalArgumentException.class, x, tried);
+    }
+
+    static void badState(String call, DoorbellChoir x, Call tried) {
+        refused(call, IllegalStateException.class, x, tried);
+    }
+
+    private static void tellWrong(String text) {
+        wrong++;
+        if (wrong <= 50) {
+            System.out.println("  wrong: " + text);
+        }
+    }
+
+    static void end() {
+        System.out.println("  " + asked + " answers looked at, " + wrong + " wrong");
+        if (asked == 0 || wrong > 0) {
+            System.exit(1);
+        }
+    }
+}
