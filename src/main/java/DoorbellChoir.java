@@ -253,11 +253,10 @@ public final class DoorbellChoir {
     // ---- who reaches whom
 
     public int reach(int tenant) throws IndexOutOfBoundsException {
-        int fresh = rungBy(tenantAt(tenant));
-        int reached = 0;
-        for (int hop = 1; hop <= MOST_TENANTS && fresh != 0; hop++) {
-            reached |= fresh;
-            fresh = rungByAll(fresh) & ~reached;
+        int reached = rungBy(tenantAt(tenant));
+        // Each tenant that can be reached at all is reached by a way that passes no tenant twice.
+        for (int hop = 2; hop <= MOST_TENANTS; hop++) {
+            reached |= rungByAll(reached);
         }
         return reached;
     }
@@ -265,15 +264,12 @@ public final class DoorbellChoir {
     public int hops(int a, int b) throws IndexOutOfBoundsException {
         Tenant from = tenantAt(a);
         Tenant to = tenantAt(b);
-        int fresh = rungBy(from);
-        int reached = 0;
-        // The shortest way to a tenant, or back to the first one, leads to no tenant twice.
-        for (int hop = 1; hop <= MOST_TENANTS && fresh != 0; hop++) {
-            if (contains(fresh, to.number)) {
+        int rung = rungBy(from);
+        for (int hop = 1; hop <= MOST_TENANTS; hop++) {
+            if (contains(rung, to.number)) {
                 return hop;
             }
-            reached |= fresh;
-            fresh = rungByAll(fresh) & ~reached;
+            rung = rungByAll(rung);
         }
         return NONE;
     }
