@@ -254,7 +254,7 @@ public final class DoorbellChoir {
 
     public int reach(int tenant) throws IndexOutOfBoundsException {
         int reached = rungBy(tenantAt(tenant));
-        // Each tenant that can be reached at all is reached by a way that passes no tenant twice.
+        // More hops reach nobody else: a shortest way, also one back, rings at no tenant twice.
         for (int hop = 2; hop <= MOST_TENANTS; hop++) {
             reached |= rungByAll(reached);
         }
