@@ -2,12 +2,18 @@
 final class Check {
     private static int asked = 0;
     private static int wrong = 0;
+    /** The sentence of the document that is held against the class just now; empty if none is. */
+    private static String sentence = "";
 
     private Check() {
     }
 
     interface Call {
         void run();
+    }
+
+    static void about(String said) {
+        sentence = said;
     }
 
     static void same(String call, long got, long due) {
@@ -63,6 +69,9 @@ final class Check {
         wrong++;
         if (wrong <= 50) {
             System.out.println("  wrong: " + text);
+            if (!sentence.isEmpty()) {
+                System.out.println("         where it says: " + sentence);
+            }
         }
     }
 

@@ -1,6 +1,7 @@
 /**
  * Promises 1 to 23 together: long runs of calls, each answer held against PlainCourtyard. The runs
- * are drawn from a written number, so they are the same each time.
+ * are drawn from a written number, so they are the same each time. The document leaves free what
+ * comes behind the 512th call; the class answers on as before, so that a run can look at more.
  */
 public final class LongRunsTest {
     private static final int RUNS = 400;

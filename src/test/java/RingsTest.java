@@ -1,11 +1,5 @@
 /** Promises 10 to 14: rings, time, counts, what waits and what fits. */
 public final class RingsTest {
-    private static final int IGNORE = 1;
-    private static final int RING = 2;
-    private static final int BESIDE = 3;
-    private static final int SING_AND_RING = 4;
-    private static final int ALL = 5;
-
     public static void main(String[] args) {
         ring();
         patienceOfRings();
@@ -23,19 +17,6 @@ public final class RingsTest {
         Check.end();
     }
 
-    private static DoorbellChoir courtyard(int tenants, int patience) {
-        DoorbellChoir x = new DoorbellChoir();
-        for (int i = 0; i < tenants; i++) {
-            x.moveIn(40 + i, patience);
-        }
-        return x;
-    }
-
-    private static void give(DoorbellChoir x, int tenant, int action, int aim, int delay, int shift) {
-        int habit = x.addHabit(tenant) - 1;
-        x.setWhat(tenant, habit, action, aim, delay, shift);
-    }
-
     private static void dueWaiting(String when, DoorbellChoir x, int[][] due) {
         Check.same(when + ": how many wait", x.count(3), due.length);
         for (int i = 0; i < due.length && i < x.count(3); i++) {
@@ -47,7 +28,7 @@ public final class RingsTest {
     }
 
     private static void ring() {
-        DoorbellChoir x = courtyard(2, 9);
+        DoorbellChoir x = Edge.courtyard(2, 9);
         Check.noSuch("ring(2)", x, () -> x.ring(2));
         Check.noSuch("ring(-1)", x, () -> x.ring(-1));
         Check.noSuch("ring(least)", x, () -> x.ring(Integer.MIN_VALUE));
@@ -72,7 +53,7 @@ public final class RingsTest {
     }
 
     private static void patienceOfRings() {
-        DoorbellChoir x = courtyard(1, 2);
+        DoorbellChoir x = Edge.courtyard(1, 2);
         x.addHabit(0);
         x.setWhen(0, 0, 0, 23, 2, 1);
         int[] answers = {0, 0, 1, 1};
@@ -85,13 +66,13 @@ public final class RingsTest {
     }
 
     private static void firstHabitThatFits() {
-        DoorbellChoir x = courtyard(2, 3);
-        give(x, 0, IGNORE, 0, 1, 0);
+        DoorbellChoir x = Edge.courtyard(2, 3);
+        Edge.give(x, 0, Edge.IGNORE, 0, 1, 0);
         x.setWhen(0, 0, 0, 23, 1, 0);
-        give(x, 0, RING, 1, 5, 1);
+        Edge.give(x, 0, Edge.RING, 1, 5, 1);
         x.setWhen(0, 1, 0, 23, 0, 3);
-        give(x, 0, RING, 1, 6, 2);
-        give(x, 0, RING, 1, 7, 3);
+        Edge.give(x, 0, Edge.RING, 1, 6, 2);
+        Edge.give(x, 0, Edge.RING, 1, 7, 3);
         x.ring(0);
         x.pass(1);
         x.ring(0);
@@ -104,8 +85,8 @@ public final class RingsTest {
 
     private static void whoIsRungAt() {
         for (int at = 0; at < 4; at++) {
-            DoorbellChoir x = courtyard(4, 9);
-            give(x, at, BESIDE, 3, 2, -4);
+            DoorbellChoir x = Edge.courtyard(4, 9);
+            Edge.give(x, at, Edge.BESIDE, 3, 2, -4);
             x.ring(at);
             if (at == 0) {
                 dueWaiting("beside 0", x, new int[][] {{2, 1, 0, -4, 1}});
@@ -116,46 +97,46 @@ public final class RingsTest {
                     new int[][] {{2, at - 1, at, -4, 1}, {2, at + 1, at, -4, 1}});
             }
         }
-        DoorbellChoir all = courtyard(4, 9);
-        give(all, 2, ALL, 0, 99, 12);
+        DoorbellChoir all = Edge.courtyard(4, 9);
+        Edge.give(all, 2, Edge.ALL, 0, 99, 12);
         all.ring(2);
         dueWaiting("all others", all,
             new int[][] {{99, 0, 2, 12, 1}, {99, 1, 2, 12, 1}, {99, 3, 2, 12, 1}});
         Check.same("ring all sings not", all.count(6), 0);
-        DoorbellChoir self = courtyard(2, 9);
-        give(self, 1, RING, 1, 3, -12);
+        DoorbellChoir self = Edge.courtyard(2, 9);
+        Edge.give(self, 1, Edge.RING, 1, 3, -12);
         self.ring(1);
         dueWaiting("at itself", self, new int[][] {{3, 1, 1, -12, 1}});
         self.pass(3);
         dueWaiting("at itself again", self, new int[][] {{6, 1, 1, -24, 2}});
-        DoorbellChoir both = courtyard(2, 9);
-        give(both, 1, SING_AND_RING, 0, 3, 2);
+        DoorbellChoir both = Edge.courtyard(2, 9);
+        Edge.give(both, 1, Edge.SING_AND_RING, 0, 3, 2);
         both.ring(1);
         dueWaiting("sing and ring", both, new int[][] {{3, 0, 1, 2, 1}});
         Check.same("sing and ring sings", both.count(6), 1);
         for (int action = 0; action < 2; action++) {
-            DoorbellChoir none = courtyard(2, 9);
-            give(none, 1, action, 0, 3, 2);
+            DoorbellChoir none = Edge.courtyard(2, 9);
+            Edge.give(none, 1, action, 0, 3, 2);
             none.ring(1);
             dueWaiting("action " + action, none, new int[][] {});
             Check.same("notes of action " + action, none.count(6), 1 - action);
         }
-        DoorbellChoir alone = courtyard(1, 9);
-        give(alone, 0, BESIDE, 0, 1, 0);
+        DoorbellChoir alone = Edge.courtyard(1, 9);
+        Edge.give(alone, 0, Edge.BESIDE, 0, 1, 0);
         alone.ring(0);
         dueWaiting("nobody beside", alone, new int[][] {});
-        DoorbellChoir full = courtyard(16, 9);
-        give(full, 15, BESIDE, 0, 1, 0);
+        DoorbellChoir full = Edge.courtyard(16, 9);
+        Edge.give(full, 15, Edge.BESIDE, 0, 1, 0);
         full.ring(15);
         dueWaiting("beside the last door", full, new int[][] {{1, 14, 15, 0, 1}});
     }
 
     private static void orderOfWaiting() {
-        DoorbellChoir x = courtyard(4, 9);
-        give(x, 3, RING, 2, 4, 1);
-        give(x, 2, RING, 2, 4, 2);
-        give(x, 1, RING, 1, 4, 3);
-        give(x, 0, RING, 3, 3, 4);
+        DoorbellChoir x = Edge.courtyard(4, 9);
+        Edge.give(x, 3, Edge.RING, 2, 4, 1);
+        Edge.give(x, 2, Edge.RING, 2, 4, 2);
+        Edge.give(x, 1, Edge.RING, 1, 4, 3);
+        Edge.give(x, 0, Edge.RING, 3, 3, 4);
         x.ring(3);
         x.ring(2);
         x.ring(1);
@@ -169,11 +150,11 @@ public final class RingsTest {
     }
 
     private static void sameTick() {
-        DoorbellChoir x = courtyard(3, 9);
-        give(x, 0, RING, 2, 4, 5);
-        give(x, 1, RING, 2, 3, 7);
+        DoorbellChoir x = Edge.courtyard(3, 9);
+        Edge.give(x, 0, Edge.RING, 2, 4, 5);
+        Edge.give(x, 1, Edge.RING, 2, 3, 7);
         x.addHabit(2);
-        x.setWhat(2, 0, SING_AND_RING, 2, 10, 0);
+        x.setWhat(2, 0, Edge.SING_AND_RING, 2, 10, 0);
         x.ring(0);
         x.pass(1);
         x.ring(1);
@@ -190,9 +171,9 @@ public final class RingsTest {
     }
 
     private static void atMostSixty() {
-        DoorbellChoir x = courtyard(16, 9);
+        DoorbellChoir x = Edge.courtyard(16, 9);
         for (int i = 0; i < 5; i++) {
-            give(x, i, ALL, 0, 10, 0);
+            Edge.give(x, i, Edge.ALL, 0, 10, 0);
         }
         for (int i = 0; i < 4; i++) {
             x.ring(i);
@@ -231,8 +212,8 @@ public final class RingsTest {
     }
 
     private static void eightHops() {
-        DoorbellChoir x = courtyard(2, 0);
-        give(x, 0, SING_AND_RING, 0, 1, -3);
+        DoorbellChoir x = Edge.courtyard(2, 0);
+        Edge.give(x, 0, Edge.SING_AND_RING, 0, 1, -3);
         x.ring(0);
         Check.same("heard in 20 ticks", x.pass(20), 8);
         Check.same("notes sung", x.count(6), 9);
@@ -245,12 +226,12 @@ public final class RingsTest {
     }
 
     private static void pass() {
-        DoorbellChoir x = courtyard(2, 9);
+        DoorbellChoir x = Edge.courtyard(2, 9);
         Check.badArgument("pass(0)", x, () -> x.pass(0));
         Check.badArgument("pass(-1)", x, () -> x.pass(-1));
         Check.badArgument("pass(1001)", x, () -> x.pass(1001));
         Check.badArgument("pass(most)", x, () -> x.pass(Integer.MAX_VALUE));
-        give(x, 0, RING, 1, 99, 0);
+        Edge.give(x, 0, Edge.RING, 1, 99, 0);
         x.ring(0);
         Check.same("pass(98)", x.pass(98), 0);
         Check.same("pass(1)", x.pass(1), 1);
@@ -259,9 +240,9 @@ public final class RingsTest {
     }
 
     private static void hoursAndPatience() {
-        DoorbellChoir x = courtyard(2, 2);
+        DoorbellChoir x = Edge.courtyard(2, 2);
         x.setHour(5);
-        give(x, 0, RING, 1, 5, 0);
+        Edge.give(x, 0, Edge.RING, 1, 5, 0);
         x.addHabit(1);
         x.setWhen(1, 0, 1, 1, 1, 2);
         x.ring(1);
@@ -289,10 +270,10 @@ public final class RingsTest {
     }
 
     private static void count() {
-        DoorbellChoir x = courtyard(3, 9);
+        DoorbellChoir x = Edge.courtyard(3, 9);
         x.setHour(6);
-        give(x, 0, SING_AND_RING, 1, 4, 0);
-        give(x, 1, RING, 2, 5, 0);
+        Edge.give(x, 0, Edge.SING_AND_RING, 1, 4, 0);
+        Edge.give(x, 1, Edge.RING, 2, 5, 0);
         x.ring(0);
         x.ring(0);
         x.pass(8);
@@ -311,9 +292,9 @@ public final class RingsTest {
     }
 
     private static void waiting() {
-        DoorbellChoir x = courtyard(3, 9);
-        give(x, 2, BESIDE, 0, 9, 3);
-        give(x, 1, RING, 0, 4, -5);
+        DoorbellChoir x = Edge.courtyard(3, 9);
+        Edge.give(x, 2, Edge.BESIDE, 0, 9, 3);
+        Edge.give(x, 1, Edge.RING, 0, 4, -5);
         x.pass(2);
         x.ring(2);
         dueWaiting("one", x, new int[][] {{11, 1, 2, 3, 1}});
@@ -326,7 +307,7 @@ public final class RingsTest {
     }
 
     private static void fits() {
-        DoorbellChoir x = courtyard(2, 3);
+        DoorbellChoir x = Edge.courtyard(2, 3);
         Check.same("fits without a habit", x.fits(0, 0, 0), -1);
         x.addHabit(0);
         x.addHabit(0);

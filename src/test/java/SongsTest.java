@@ -1,8 +1,5 @@
 /** Promises 15 to 19: the songs and how they sound. */
 public final class SongsTest {
-    private static final int SING = 0;
-    private static final int SING_AND_RING = 4;
-
     public static void main(String[] args) {
         sung();
         notesByTheirRemainder();
@@ -15,17 +12,12 @@ public final class SongsTest {
         Check.end();
     }
 
-    private static void give(DoorbellChoir x, int tenant, int action, int aim, int delay, int shift) {
-        int habit = x.addHabit(tenant) - 1;
-        x.setWhat(tenant, habit, action, aim, delay, shift);
-    }
-
     /** Tenants who sing these notes, each for as many ticks as is told. */
     private static DoorbellChoir singers(int[] notes, int[] lengths) {
         DoorbellChoir x = new DoorbellChoir();
         for (int i = 0; i < notes.length; i++) {
             x.moveIn(notes[i], 9);
-            give(x, i, SING, i, lengths[i], 5);
+            Edge.give(x, i, Edge.SING, i, lengths[i], 5);
         }
         return x;
     }
@@ -34,8 +26,8 @@ public final class SongsTest {
         DoorbellChoir x = new DoorbellChoir();
         x.moveIn(60, 9);
         x.moveIn(20, 9);
-        give(x, 0, SING_AND_RING, 1, 6, 7);
-        give(x, 1, SING, 0, 99, -3);
+        Edge.give(x, 0, Edge.SING_AND_RING, 1, 6, 7);
+        Edge.give(x, 1, Edge.SING, 0, 99, -3);
         x.pass(2);
         x.ring(0);
         x.pass(6);
@@ -45,7 +37,7 @@ public final class SongsTest {
                 Check.same("sung(" + i + ", " + what + ")", x.sung(i, what), due[i][what]);
             }
         }
-        x.setWhat(0, 0, SING, 0, 1, 0);
+        x.setWhat(0, 0, Edge.SING, 0, 1, 0);
         Check.same("a note stays as it was sung", x.sung(0, 1), 6);
         Check.noSuch("sung(2, 0)", x, () -> x.sung(2, 0));
         Check.noSuch("sung(-1, 0)", x, () -> x.sung(-1, 0));
@@ -56,7 +48,7 @@ public final class SongsTest {
     private static void notesByTheirRemainder() {
         DoorbellChoir low = new DoorbellChoir();
         low.moveIn(3, 9);
-        give(low, 0, SING_AND_RING, 0, 1, -12);
+        Edge.give(low, 0, Edge.SING_AND_RING, 0, 1, -12);
         low.ring(0);
         low.pass(8);
         int[] falling = {3, 79, 67, 55, 43, 31, 19, 7, 83};
@@ -65,7 +57,7 @@ public final class SongsTest {
         }
         DoorbellChoir high = new DoorbellChoir();
         high.moveIn(87, 9);
-        give(high, 0, SING_AND_RING, 0, 1, 1);
+        Edge.give(high, 0, Edge.SING_AND_RING, 0, 1, 1);
         high.ring(0);
         high.pass(2);
         Check.same("note 87", high.sung(0, 2), 87);
@@ -80,12 +72,12 @@ public final class SongsTest {
         }
         int[] way = {15, 0, 7, 7, 3, 15, 14, 8, 1};
         for (int i = 0; i + 1 < way.length; i++) {
-            give(x, way[i], SING_AND_RING, way[i + 1], 2, 0);
+            Edge.give(x, way[i], Edge.SING_AND_RING, way[i + 1], 2, 0);
         }
         // 15 and 7 ring on in two ways: the first habits must fit the first time alone.
         x.setWhen(15, 0, 0, 23, 0, 0);
         x.setWhen(7, 0, 0, 23, 1, 9);
-        give(x, 1, SING, 1, 1, 0);
+        Edge.give(x, 1, Edge.SING, 1, 1, 0);
         x.ring(15);
         x.pass(16);
         Check.same("notes", x.count(6), way.length);
@@ -208,7 +200,7 @@ public final class SongsTest {
         DoorbellChoir x = new DoorbellChoir();
         for (int i = 0; i < 16; i++) {
             x.moveIn(i, 0);
-            give(x, i, SING, i, 99, 0);
+            Edge.give(x, i, Edge.SING, i, 99, 0);
         }
         for (int tick = 0; tick < 12; tick++) {
             for (int i = 0; i < 16; i++) {

@@ -16,14 +16,6 @@ public final class TenantsTest {
         Check.end();
     }
 
-    private static DoorbellChoir courtyard(int tenants) {
-        DoorbellChoir x = new DoorbellChoir();
-        for (int i = 0; i < tenants; i++) {
-            x.moveIn(40 + i, 9);
-        }
-        return x;
-    }
-
     private static void newObject() {
         DoorbellChoir x = new DoorbellChoir();
         int[] counts = {0, 0, 0, 0, 0, 0, 0, 0, 60};
@@ -35,7 +27,7 @@ public final class TenantsTest {
         Check.noSuch("new: tenant(0, 0)", x, () -> x.tenant(0, 0));
         Check.noSuch("new: waiting(0, 0)", x, () -> x.waiting(0, 0));
         Check.noSuch("new: sung(0, 0)", x, () -> x.sung(0, 0));
-        DoorbellChoir other = courtyard(3);
+        DoorbellChoir other = Edge.courtyard(3, 9);
         Check.same("two objects: count(2)", x.count(2), 0);
         Check.same("two objects: count(2) of the other", other.count(2), 3);
     }
@@ -59,7 +51,7 @@ public final class TenantsTest {
     }
 
     private static void setHour() {
-        DoorbellChoir x = courtyard(1);
+        DoorbellChoir x = Edge.courtyard(1, 9);
         Check.badArgument("setHour(4)", x, () -> x.setHour(4));
         Check.badArgument("setHour(501)", x, () -> x.setHour(501));
         Check.badArgument("setHour(0)", x, () -> x.setHour(0));
@@ -81,7 +73,7 @@ public final class TenantsTest {
     }
 
     private static void addHabit() {
-        DoorbellChoir x = courtyard(3);
+        DoorbellChoir x = Edge.courtyard(3, 9);
         Check.noSuch("addHabit(3)", x, () -> x.addHabit(3));
         Check.noSuch("addHabit(-1)", x, () -> x.addHabit(-1));
         for (int i = 1; i <= 8; i++) {
@@ -101,7 +93,7 @@ public final class TenantsTest {
     }
 
     private static void setWhen() {
-        DoorbellChoir x = courtyard(2);
+        DoorbellChoir x = Edge.courtyard(2, 9);
         x.addHabit(1);
         Check.noSuch("setWhen of tenant 2", x, () -> x.setWhen(2, 0, 0, 0, 0, 0));
         Check.noSuch("setWhen of tenant -1", x, () -> x.setWhen(-1, 0, 0, 0, 0, 0));
@@ -126,7 +118,7 @@ public final class TenantsTest {
     }
 
     private static void setWhat() {
-        DoorbellChoir x = courtyard(2);
+        DoorbellChoir x = Edge.courtyard(2, 9);
         x.addHabit(1);
         Check.noSuch("setWhat of tenant 2", x, () -> x.setWhat(2, 0, 0, 0, 1, 0));
         Check.noSuch("setWhat of tenant -1", x, () -> x.setWhat(-1, 0, 0, 0, 1, 0));
@@ -151,7 +143,7 @@ public final class TenantsTest {
     }
 
     private static void dropHabit() {
-        DoorbellChoir x = courtyard(2);
+        DoorbellChoir x = Edge.courtyard(2, 9);
         for (int i = 0; i < 4; i++) {
             x.addHabit(0);
             x.setWhat(0, i, 1, 1, 10 + i, 0);
@@ -178,7 +170,7 @@ public final class TenantsTest {
     }
 
     private static void tenant() {
-        DoorbellChoir x = courtyard(1);
+        DoorbellChoir x = Edge.courtyard(1, 9);
         x.moveIn(33, 2);
         x.addHabit(1);
         x.addHabit(1);
@@ -201,7 +193,7 @@ public final class TenantsTest {
     }
 
     private static void habit() {
-        DoorbellChoir x = courtyard(3);
+        DoorbellChoir x = Edge.courtyard(3, 9);
         x.addHabit(0);
         x.addHabit(0);
         x.setWhen(0, 1, 21, 3, 1, 4);
